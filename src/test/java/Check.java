@@ -1,9 +1,5 @@
 /** Compares answers with what is due and counts what is not so. */
 final class Check {
-    interface Call {
-        long answer();
-    }
-
     interface Act {
         void go();
     }
