@@ -12,16 +12,20 @@ public final class LoopGroup {
     private static final int MOST_LOOPS = 8;
     private static final int MOST_ADVANCE = 1000000;
 
-    private final Trace trace = new Trace();
-    private final Tasks tasks = new Tasks();
-    private final Promises promises = new Promises();
-    private final Channels channels = new Channels();
-    private final Scheduler scheduler;
     private final Runner runner;
+    private final Scheduler scheduler;
+    private final Trace trace;
+    private final Tasks tasks;
+    private final Promises promises;
+    private final Channels channels;
 
     public LoopGroup(int n) {
-        scheduler = new Scheduler(n >= 1 && n <= MOST_LOOPS ? n : 1, trace);
-        runner = new Runner(scheduler, tasks, promises, channels);
+        runner = new Runner(n >= 1 && n <= MOST_LOOPS ? n : 1);
+        scheduler = runner.scheduler;
+        trace = scheduler.trace;
+        tasks = runner.tasks;
+        promises = runner.promises;
+        channels = runner.channels;
     }
 
     public int task() throws IllegalStateException {
@@ -237,7 +241,7 @@ public final class LoopGroup {
         int count;
 
         void log(int thread, int kind, int value) {
-            int at = count % KEPT * WIDTH;
+            int at = (count % KEPT) * WIDTH;
             rows[at] = thread;
             rows[at + 1] = kind;
             rows[at + 2] = value;
@@ -249,7 +253,7 @@ public final class LoopGroup {
         }
 
         int read(int k, int what) {
-            return rows[k % KEPT * WIDTH + what];
+            return rows[(k % KEPT) * WIDTH + what];
         }
     }
 
@@ -337,7 +341,7 @@ public final class LoopGroup {
         }
 
         boolean close(int promise, int state, int value) {
-            if (!isPending(promise) || state == CANCELLED && pinned[promise]) {
+            if (!isPending(promise) || (state == CANCELLED && pinned[promise])) {
                 return false;
             }
             states[promise] = state;
@@ -521,14 +525,13 @@ public final class LoopGroup {
         static final int MOST_TIMERS = 400;
         static final int MOST_BATCH = 16;
 
+        final Trace trace = new Trace();
         final Loop[] loops;
-        final Trace trace;
         long clock;
         int chosen;
         int timersMade;
 
-        Scheduler(int n, Trace trace) {
-            this.trace = trace;
+        Scheduler(int n) {
             loops = new Loop[n];
             for (int k = 0; k < n; k++) {
                 loops[k] = new Loop();
@@ -543,7 +546,7 @@ public final class LoopGroup {
             int times = chosen;
             int n = loops.length;
             chosen++;
-            return (n & n - 1) == 0 ? times & n - 1 : Math.abs(times % n);
+            return (n & (n - 1)) == 0 ? times & (n - 1) : Math.abs(times % n);
         }
 
         boolean enqueue(int thread, int target, int kind, int number, int message) {
@@ -654,21 +657,18 @@ public final class LoopGroup {
         static final int SWALLOWED = 1;
         static final int THROWN = 2;
 
+        final Tasks tasks = new Tasks();
+        final Promises promises = new Promises();
+        final Channels channels = new Channels();
         final Scheduler scheduler;
         final Trace trace;
-        final Tasks tasks;
-        final Promises promises;
-        final Channels channels;
         int work;
         int notifying;
         int firing;
 
-        Runner(Scheduler scheduler, Tasks tasks, Promises promises, Channels channels) {
-            this.scheduler = scheduler;
-            this.trace = scheduler.trace;
-            this.tasks = tasks;
-            this.promises = promises;
-            this.channels = channels;
+        Runner(int n) {
+            scheduler = new Scheduler(n);
+            trace = scheduler.trace;
         }
 
         int takeStep(int thread) {

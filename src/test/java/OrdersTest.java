@@ -97,9 +97,10 @@ final class OrdersTest {
         x.timer(0, 5, 1);
         Check.same("one of another loop, twice", ran(x, 3, 1, 0, 3, 1, 0, 0, 1, 0), "0:0:1");
         Check.same("one is left", x.loop(1, 2), 1);
-        Check.same("the other one", x.cancel(0), true);
-        Check.same("one that there is not", ran(x, 3, 2, 0, 0, 1, 0), "0:2:2");
-        Check.same("timer -1", ran(x, 3, -1, 0, 0, 1, 0), "0:2:3");
+        Check.same("timer 0", ran(x, 3, 0, 0, 0, 1, 0), "0:0:1");
+        Check.same("none is left", x.loop(1, 2), 0);
+        Check.same("one that there is not", ran(x, 3, 2, 0, 0, 1, 0), "0:2:3");
+        Check.same("timer -1", ran(x, 3, -1, 0, 0, 1, 0), "0:2:4");
     }
 
     private static void completeOrders() {

@@ -5,6 +5,7 @@ final class P06HandlerTest {
         wrong();
         takingAway();
         takingAwayMovesKindAndTask();
+        neighboursStay();
         Check.end();
     }
 
@@ -81,5 +82,23 @@ final class P06HandlerTest {
         x.fire(0, 4);
         x.step(0);
         Check.traceIs("kinds and tasks move", x, "0:7:2 0:1:-1 0:6:2000004 0:0:77 0:6:3000004 0:6:4000007");
+    }
+
+    private static void neighboursStay() {
+        LoopGroup x = new LoopGroup(1);
+        for (int pair = 0; pair < 8; pair++) {
+            x.channels(0, 0);
+        }
+        for (int k = 0; k < 6 * 16; k++) {
+            x.handler(k / 6, 0, 0, -1);
+        }
+        Check.same("the last of the last channel", x.handler(15, 0, 0, 5), 95);
+        Check.same("the first of the last channel", x.handler(15, 0, 0, 0), 90);
+        Check.same("one of the last but one", x.handler(14, 0, 0, 3), 87);
+        Check.same("the next one's places", x.handler(15, 0, 0, 0), 91);
+        for (int number = 92; number <= 94; number++) {
+            Check.same("and on", x.handler(15, 0, 0, 0), number);
+        }
+        Check.same("the one's behind it", x.handler(14, 0, 0, 4), 89);
     }
 }

@@ -12,6 +12,7 @@ final class P09TimerTest {
         shuttingDown();
         onlyAtTheBatchsBegin();
         roomInTheQueue();
+        allOfALoopAreDue();
         Check.end();
     }
 
@@ -181,5 +182,18 @@ final class P09TimerTest {
         Check.same("the latest deadlines stay", x.cancel(0), true);
         Check.same("and", x.cancel(1), true);
         Check.same("not the others", x.cancel(2) || x.cancel(3) || x.cancel(4), false);
+    }
+
+    private static void allOfALoopAreDue() {
+        LoopGroup x = new LoopGroup(1);
+        x.task();
+        for (int k = 0; k < 24; k++) {
+            x.timer(0, k % 3, 0);
+        }
+        x.advance(2);
+        x.step(0);
+        Check.same("none waits", x.loop(0, 2), 0);
+        Check.same("one began", x.loop(0, 1), 23);
+        Check.same("a batch of 16", x.loop(0, 4), 15);
     }
 }

@@ -13,6 +13,7 @@ final class WorkLimitTest {
         anEchoMoreIsNotWritten();
         theNextStepBeginsAnew();
         goingOnBeginsAnew();
+        theAwaitIsOfTheStepBefore();
         Check.end();
     }
 
@@ -148,5 +149,14 @@ final class WorkLimitTest {
         x.complete(0, 1, 0);
         x.step(0);
         Check.same("all that is behind the await", tail(x, 2), "0:8:1 0:0:82");
+    }
+
+    private static void theAwaitIsOfTheStepBefore() {
+        LoopGroup x = busy(7, 0, 5);
+        x.execute(Check.task(x, 8, 0, 0, 10, 2, 1), 0);
+        x.step(0);
+        x.complete(0, 1, 0);
+        x.step(0);
+        Check.same("the FIRE and 999 more", tail(x, 2), "0:0:76 0:8:1");
     }
 }
