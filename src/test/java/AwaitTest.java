@@ -13,7 +13,7 @@ final class AwaitTest {
     }
 
     private static void byTheExecutor() {
-        LoopGroup x = new LoopGroup(1);
+        Group x = new Group(1);
         x.promise(0);
         Check.task(x, 8, 0, 0, 0, 1, 0);
         x.execute(0, 0);
@@ -23,7 +23,7 @@ final class AwaitTest {
     }
 
     private static void ofOneThatIsDone() {
-        LoopGroup x = new LoopGroup(2);
+        Group x = new Group(2);
         x.promise(0);
         Check.task(x, 8, 0, 0, 0, 1, 0);
         x.complete(0, 3, 0);
@@ -35,7 +35,7 @@ final class AwaitTest {
     }
 
     private static void withinAListenerThatRunsNow() {
-        LoopGroup x = new LoopGroup(2);
+        Group x = new Group(2);
         x.promise(0);
         x.promise(1);
         Check.task(x, 4, 0, 0, 0, 1, 0);
@@ -48,7 +48,7 @@ final class AwaitTest {
     }
 
     private static void withinAPipeline() {
-        LoopGroup x = new LoopGroup(2);
+        Group x = new Group(2);
         x.promise(1);
         x.channels(0, 0);
         Check.task(x, 8, 0, 0, 0, 2, 0);
@@ -63,7 +63,7 @@ final class AwaitTest {
     }
 
     private static void byAnExecutedListener() {
-        LoopGroup x = new LoopGroup(2);
+        Group x = new Group(2);
         x.promise(0);
         x.promise(1);
         Check.task(x, 8, 1, 0, 9, 0, 0);
@@ -77,7 +77,7 @@ final class AwaitTest {
     }
 
     private static void behindAListenerThatRan() {
-        LoopGroup x = new LoopGroup(2);
+        Group x = new Group(2);
         x.promise(0);
         x.promise(1);
         x.channels(0, 0);
@@ -90,7 +90,7 @@ final class AwaitTest {
     }
 
     private static void theThrowBehindIt() {
-        LoopGroup x = new LoopGroup(2);
+        Group x = new Group(2);
         x.promise(1);
         Check.task(x, 8, 0, 0, 9, 0, 0, 0, 1, 0);
         x.execute(0, 0);
@@ -101,7 +101,7 @@ final class AwaitTest {
     }
 
     private static void byTheLoopThatIsBlockedNoMore() {
-        LoopGroup x = new LoopGroup(3);
+        Group x = new Group(3);
         x.promise(2);
         Check.task(x, 8, 0, 0, 0, 1, 0);
         Check.task(x, 4, 0, 3);

@@ -48,25 +48,26 @@ final class Check {
     }
 
     /** Entries from .. of the trace, each as loop:kind:value. */
-    static String trace(LoopGroup group, int from) {
+    static String trace(Group group, int from) {
         StringBuilder text = new StringBuilder();
-        for (int k = from; k < group.traced(); k++) {
+        int end = group.traced();
+        for (int k = from; k < end; k++) {
             text.append(k == from ? "" : " ").append(group.trace(k, 0)).append(':')
                 .append(group.trace(k, 1)).append(':').append(group.trace(k, 2));
         }
         return text.toString();
     }
 
-    static void traceIs(String what, LoopGroup group, String due) {
+    static void traceIs(String what, Group group, String due) {
         traceIs(what, group, 0, due);
     }
 
-    static void traceIs(String what, LoopGroup group, int from, String due) {
+    static void traceIs(String what, Group group, int from, String due) {
         same(what + ": trace", trace(group, from), due);
     }
 
     /** A task with orders of kind, a, b each. */
-    static int task(LoopGroup group, int... orders) {
+    static int task(Group group, int... orders) {
         int task = group.task();
         for (int k = 0; k < orders.length; k += 3) {
             group.order(task, orders[k], orders[k + 1], orders[k + 2]);

@@ -13,7 +13,7 @@ final class NotifyTest {
     }
 
     private static void nowByTheExecutor() {
-        LoopGroup x = new LoopGroup(1);
+        Group x = new Group(1);
         x.promise(0);
         Check.task(x, 0, 1, 0, 4, 0, 9, 0, 2, 0);
         Check.task(x, 0, 30, 0);
@@ -29,7 +29,7 @@ final class NotifyTest {
     }
 
     private static void executedByOthers() {
-        LoopGroup x = new LoopGroup(2);
+        Group x = new Group(2);
         x.promise(1);
         Check.task(x, 6, 0, 0, 0, 2, 0);
         Check.task(x, 0, 30, 0);
@@ -41,7 +41,7 @@ final class NotifyTest {
     }
 
     private static void doneAtOnce() {
-        LoopGroup x = new LoopGroup(2);
+        Group x = new Group(2);
         x.promise(0);
         Check.task(x, 7, 0, 1, 0, 2, 0);
         Check.task(x, 0, 30, 0);
@@ -56,7 +56,7 @@ final class NotifyTest {
     }
 
     private static void addedWhileOthersAreNotified() {
-        LoopGroup x = new LoopGroup(1);
+        Group x = new Group(1);
         x.promise(0);
         Check.task(x, 4, 0, 0);
         Check.task(x, 7, 0, 3, 0, 1, 0);
@@ -70,7 +70,7 @@ final class NotifyTest {
     }
 
     private static void throwsEndItAlone() {
-        LoopGroup x = new LoopGroup(1);
+        Group x = new Group(1);
         x.promise(0);
         Check.task(x, 4, 0, 0, 0, 9, 0);
         Check.task(x, 9, 0, 0, 0, 1, 0);
@@ -86,8 +86,8 @@ final class NotifyTest {
     }
 
     /** Task k completes promise k, at which task k + 1 listens, all on loop 0. */
-    private static LoopGroup chain(int length) {
-        LoopGroup x = new LoopGroup(1);
+    private static Group chain(int length) {
+        Group x = new Group(1);
         for (int k = 0; k < length; k++) {
             x.promise(0);
             Check.task(x, 4, k, 0, 0, 50 + k, 0);
@@ -99,7 +99,7 @@ final class NotifyTest {
     }
 
     private static void fourWithinOneAnother() {
-        LoopGroup x = chain(7);
+        Group x = chain(7);
         x.execute(0, 0);
         x.step(0);
         Check.traceIs("four run now, the fifth is executed", x,
@@ -110,7 +110,7 @@ final class NotifyTest {
     }
 
     private static void theFifthIsRejected() {
-        LoopGroup x = chain(6);
+        Group x = chain(6);
         x.execute(0, 0);
         x.task();
         for (int k = 0; k < 23; k++) {
@@ -129,7 +129,7 @@ final class NotifyTest {
     }
 
     private static void lostOnTheLoop() {
-        LoopGroup x = chain(6);
+        Group x = chain(6);
         Check.task(x, 1, 0, 0);
         x.order(0, 0, 1, 0);
         x.listen(3, 6);
@@ -145,7 +145,7 @@ final class NotifyTest {
     }
 
     private static void anExecutedOneIsNoNesting() {
-        LoopGroup x = chain(6);
+        Group x = chain(6);
         x.complete(0, 1, 0);
         x.step(0);
         Check.traceIs("four more within it", x,

@@ -18,7 +18,7 @@ final class OrdersTest {
     }
 
     /** Runs a task with these orders on loop 0 and tells what it logged behind its beginning. */
-    private static String ran(LoopGroup x, int... orders) {
+    private static String ran(Group x, int... orders) {
         int task = Check.task(x, orders);
         x.execute(task, 0);
         int from = x.traced();
@@ -30,7 +30,7 @@ final class OrdersTest {
     }
 
     private static void executeOrders() {
-        LoopGroup x = new LoopGroup(3);
+        Group x = new Group(3);
         x.task();
         Check.same("on itself", ran(x, 1, 0, -1), "");
         Check.same("its queue", x.loop(0, 1), 1);
@@ -41,7 +41,7 @@ final class OrdersTest {
     }
 
     private static void executeByTheChooser() {
-        LoopGroup x = new LoopGroup(3);
+        Group x = new Group(3);
         x.task();
         Check.same("0, 1, 2, 0", ran(x, 1, 0, -2, 1, 0, -2, 1, 0, -2, 1, 0, -2), "1:7:2 2:7:2");
         Check.same("0 twice", x.loop(0, 1), 2);
@@ -54,7 +54,7 @@ final class OrdersTest {
     }
 
     private static void rejectedExecuteIsNoThrow() {
-        LoopGroup x = new LoopGroup(2);
+        Group x = new Group(2);
         x.task();
         for (int k = 0; k < 24; k++) {
             x.execute(0, 1);
@@ -65,7 +65,7 @@ final class OrdersTest {
     }
 
     private static void placeOfTheFirstIsFree() {
-        LoopGroup x = new LoopGroup(1);
+        Group x = new Group(1);
         Check.task(x, 1, 0, -1, 1, 0, -1);
         for (int k = 0; k < 24; k++) {
             x.execute(0, 0);
@@ -76,7 +76,7 @@ final class OrdersTest {
     }
 
     private static void timerOrders() {
-        LoopGroup x = new LoopGroup(2);
+        Group x = new Group(2);
         Check.task(x, 0, 3, 0);
         Check.same("made by the loop", ran(x, 2, 0, 5, 2, 0, 0), "0:9:0 0:9:1");
         Check.same("on the loop that does it", x.loop(0, 2), 2);
@@ -91,7 +91,7 @@ final class OrdersTest {
     }
 
     private static void cancelOrders() {
-        LoopGroup x = new LoopGroup(2);
+        Group x = new Group(2);
         x.task();
         x.timer(0, 5, 1);
         x.timer(0, 5, 1);
@@ -104,7 +104,7 @@ final class OrdersTest {
     }
 
     private static void completeOrders() {
-        LoopGroup x = new LoopGroup(1);
+        Group x = new Group(1);
         for (int k = 0; k < 3; k++) {
             x.promise(0);
         }
@@ -116,7 +116,7 @@ final class OrdersTest {
     }
 
     private static void pinOrder() {
-        LoopGroup x = new LoopGroup(1);
+        Group x = new Group(1);
         x.promise(0);
         Check.same("pin, cancel, go on", ran(x, 13, 0, 0, 6, 0, 0, 0, 1, 0), "0:0:1");
         Check.same("pending", x.look(0, 0), 0);
@@ -125,7 +125,7 @@ final class OrdersTest {
     }
 
     private static void listenOrders() {
-        LoopGroup x = new LoopGroup(2);
+        Group x = new Group(2);
         x.promise(0);
         Check.task(x, 0, 40, 0);
         Check.same("six wait", ran(x, 7, 0, 0, 7, 0, 0, 7, 0, 0, 7, 0, 0, 7, 0, 0, 7, 0, 0), "");
@@ -135,7 +135,7 @@ final class OrdersTest {
     }
 
     private static void shutdownOrder() {
-        LoopGroup x = new LoopGroup(2);
+        Group x = new Group(2);
         x.advance(3);
         Check.same("quiet above timeout", ran(x, 12, 2, 1, 0, 1, 0), "0:2:0");
         Check.same("quiet below 0", ran(x, 12, -1, 1), "0:2:1");
@@ -148,7 +148,7 @@ final class OrdersTest {
     }
 
     private static void throwEndsTheTask() {
-        LoopGroup x = new LoopGroup(1);
+        Group x = new Group(1);
         Check.same("the orders behind it are not done", ran(x, 0, 1, 0, 9, 0, 0, 0, 2, 0), "0:0:1 0:2:0");
         Check.same("the loop goes on", ran(x, 0, 3, 0), "0:0:3");
     }
@@ -160,7 +160,7 @@ final class OrdersTest {
             {7, 0, -1}, {8, 1, 0}, {8, -1, 0}, {10, 2, 0}, {10, -1, 0}, {11, 2, 0}, {11, -1, 0}, {12, 1, 0},
             {12, -1, 0}, {12, 0, -1}, {13, 1, 0}, {13, -1, 0}};
         for (int[] order : orders) {
-            LoopGroup x = new LoopGroup(2);
+            Group x = new Group(2);
             x.promise(0);
             x.channels(0, 1);
             int task = Check.task(x, order[0], order[1], order[2], 0, 7, 0);
@@ -171,7 +171,7 @@ final class OrdersTest {
     }
 
     private static void doneIsNoThrow() {
-        LoopGroup x = new LoopGroup(1);
+        Group x = new Group(1);
         x.promise(0);
         x.complete(0, 1, 2);
         Check.same("orders at a promise that is done", ran(x, 4, 0, 1, 5, 0, 1, 6, 0, 1, 13, 0, 0, 8, 0, 0, 0, 1, 0), "0:0:1");

@@ -13,7 +13,7 @@ final class P01NewObjectTest {
     }
 
     private static void hasLoops(int n, int loops) {
-        LoopGroup x = new LoopGroup(n);
+        Group x = new Group(n);
         for (int k = 0; k < loops; k++) {
             Check.same("state of loop " + k + " of " + n, x.loop(k, 0), 1);
             for (int what = 1; what <= 4; what++) {
@@ -26,7 +26,7 @@ final class P01NewObjectTest {
     }
 
     private static void nothingElse() {
-        LoopGroup x = new LoopGroup(2);
+        Group x = new Group(2);
         Check.same("clock", x.advance(0), 0);
         Check.same("traced", x.traced(), 0);
         Check.same("no timer", x.cancel(0), false);
@@ -36,8 +36,8 @@ final class P01NewObjectTest {
     }
 
     private static void objectsShareNothing() {
-        LoopGroup one = new LoopGroup(1);
-        LoopGroup other = new LoopGroup(1);
+        Group one = new Group(1);
+        Group other = new Group(1);
         one.execute(one.task(), 0);
         one.advance(7);
         Check.same("other's state", other.loop(0, 0), 1);

@@ -1,7 +1,7 @@
 /** Promise 2: one more task, without orders; at most 24. */
 final class P02TaskTest {
     public static void main(String[] args) {
-        LoopGroup x = new LoopGroup(2);
+        Group x = new Group(2);
         for (int k = 0; k < 24; k++) {
             int next = k;
             Check.illegalArgument("execute of task " + k + " before it is there", () -> x.execute(next, 0));

@@ -11,7 +11,7 @@ final class P03OrderTest {
     }
 
     private static void counts() {
-        LoopGroup x = new LoopGroup(1);
+        Group x = new Group(1);
         x.task();
         x.task();
         for (int k = 1; k <= 8; k++) {
@@ -22,7 +22,7 @@ final class P03OrderTest {
     }
 
     private static void kinds() {
-        LoopGroup x = new LoopGroup(1);
+        Group x = new Group(1);
         for (int kind = 0; kind <= 13; kind++) {
             int task = x.task();
             Check.same("kind " + kind, x.order(task, kind, Integer.MIN_VALUE, Integer.MAX_VALUE), 1);
@@ -33,7 +33,7 @@ final class P03OrderTest {
     }
 
     private static void wrong() {
-        LoopGroup x = new LoopGroup(1);
+        Group x = new Group(1);
         Check.illegalArgument("no task yet", () -> x.order(0, 0, 0, 0));
         x.task();
         Check.illegalArgument("task 1", () -> x.order(1, 0, 0, 0));
@@ -48,7 +48,7 @@ final class P03OrderTest {
     }
 
     private static void ordersAreDoneInTheirOrder() {
-        LoopGroup x = new LoopGroup(1);
+        Group x = new Group(1);
         int task = Check.task(x, 0, 5, 0, 0, Integer.MIN_VALUE, 0, 0, -1, 0, 0, 8, 0, 0, 1, 0, 0, 2, 0, 0, 3, 0, 0, 4, 0);
         x.execute(task, 0);
         x.step(0);
@@ -57,7 +57,7 @@ final class P03OrderTest {
     }
 
     private static void ordersOfOneTaskAreItsOwn() {
-        LoopGroup x = new LoopGroup(1);
+        Group x = new Group(1);
         Check.task(x, 0, 1, 0);
         Check.task(x, 0, 2, 0);
         x.order(0, 0, 3, 0);
@@ -69,7 +69,7 @@ final class P03OrderTest {
     }
 
     private static void laterOrdersCount() {
-        LoopGroup x = new LoopGroup(2);
+        Group x = new Group(2);
         x.promise(1);
         Check.task(x, 8, 0, 0);
         x.execute(0, 0);

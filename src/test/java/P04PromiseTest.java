@@ -1,7 +1,7 @@
 /** Promise 4: one more promise with a loop as its executor; at most 32. */
 final class P04PromiseTest {
     public static void main(String[] args) {
-        LoopGroup x = new LoopGroup(3);
+        Group x = new Group(3);
         Check.illegalArgument("loop 3", () -> x.promise(3));
         Check.illegalArgument("loop -1", () -> x.promise(-1));
         Check.illegalArgument("loop -2", () -> x.promise(-2));
@@ -20,7 +20,7 @@ final class P04PromiseTest {
         Check.end();
     }
 
-    private static void executorsGetTheListeners(LoopGroup x) {
+    private static void executorsGetTheListeners(Group x) {
         int task = x.task();
         for (int k = 0; k < 3; k++) {
             x.listen(k, task);

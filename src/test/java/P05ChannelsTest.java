@@ -7,7 +7,7 @@ final class P05ChannelsTest {
     }
 
     private static void numbers() {
-        LoopGroup x = new LoopGroup(2);
+        Group x = new Group(2);
         Check.illegalArgument("first loop 2", () -> x.channels(2, 0));
         Check.illegalArgument("second loop 2", () -> x.channels(0, 2));
         Check.illegalArgument("first loop -1", () -> x.channels(-1, 0));
@@ -24,7 +24,7 @@ final class P05ChannelsTest {
     }
 
     private static void loopsAndPeers() {
-        LoopGroup x = new LoopGroup(4);
+        Group x = new Group(4);
         x.channels(0, 1);
         x.channels(2, 3);
         for (int channel = 0; channel < 4; channel++) {

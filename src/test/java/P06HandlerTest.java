@@ -10,7 +10,7 @@ final class P06HandlerTest {
     }
 
     private static void numbersAndLimits() {
-        LoopGroup x = new LoopGroup(1);
+        Group x = new Group(1);
         x.channels(0, 0);
         x.task();
         for (int kind = 0; kind <= 5; kind++) {
@@ -25,7 +25,7 @@ final class P06HandlerTest {
     }
 
     private static void wrong() {
-        LoopGroup x = new LoopGroup(1);
+        Group x = new Group(1);
         Check.illegalArgument("no channel yet", () -> x.handler(0, 0, 0, -1));
         x.channels(0, 0);
         Check.illegalArgument("channel 2", () -> x.handler(2, 0, 0, -1));
@@ -50,7 +50,7 @@ final class P06HandlerTest {
     }
 
     private static void takingAway() {
-        LoopGroup x = new LoopGroup(1);
+        Group x = new Group(1);
         x.channels(0, 0);
         for (int k = 0; k < 6; k++) {
             x.handler(0, 0, 0, -1);
@@ -69,7 +69,7 @@ final class P06HandlerTest {
     }
 
     private static void takingAwayMovesKindAndTask() {
-        LoopGroup x = new LoopGroup(1);
+        Group x = new Group(1);
         x.channels(0, 0);
         x.task();
         Check.task(x, 0, 77, 0);
@@ -85,7 +85,7 @@ final class P06HandlerTest {
     }
 
     private static void neighboursStay() {
-        LoopGroup x = new LoopGroup(1);
+        Group x = new Group(1);
         for (int pair = 0; pair < 8; pair++) {
             x.channels(0, 0);
         }

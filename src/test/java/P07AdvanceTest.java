@@ -1,7 +1,7 @@
 /** Promise 7: the clock goes on by 0 .. 1,000,000. */
 final class P07AdvanceTest {
     public static void main(String[] args) {
-        LoopGroup x = new LoopGroup(1);
+        Group x = new Group(1);
         Check.same("0", x.advance(0), 0);
         Check.same("1", x.advance(1), 1);
         Check.same("most", x.advance(1000000), 1000001);

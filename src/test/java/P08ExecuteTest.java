@@ -11,7 +11,7 @@ final class P08ExecuteTest {
     }
 
     private static void startsAndQueues() {
-        LoopGroup x = new LoopGroup(2);
+        Group x = new Group(2);
         Check.task(x, 0, 10, 0);
         Check.task(x, 0, 11, 0);
         Check.same("the loop", x.execute(0, 1), 1);
@@ -28,7 +28,7 @@ final class P08ExecuteTest {
     }
 
     private static void wrong() {
-        LoopGroup x = new LoopGroup(3);
+        Group x = new Group(3);
         x.task();
         Check.illegalArgument("task 1", () -> x.execute(1, 0));
         Check.illegalArgument("task -1", () -> x.execute(-1, 0));
@@ -41,7 +41,7 @@ final class P08ExecuteTest {
     }
 
     private static void fullQueue() {
-        LoopGroup x = new LoopGroup(2);
+        Group x = new Group(2);
         x.task();
         x.task();
         for (int k = 0; k < 24; k++) {
@@ -57,7 +57,7 @@ final class P08ExecuteTest {
     }
 
     private static void afterTheEnd() {
-        LoopGroup x = new LoopGroup(1);
+        Group x = new Group(1);
         x.task();
         x.shutdown(0, 0);
         Check.same("a loop that is shutting down takes it", x.execute(0, 0), 0);
@@ -72,7 +72,7 @@ final class P08ExecuteTest {
 
     private static void chooserOfAll() {
         for (int n = 1; n <= 8; n++) {
-            LoopGroup x = new LoopGroup(n);
+            Group x = new Group(n);
             x.task();
             for (int k = 0; k < 3 * n + 1; k++) {
                 Check.same("chooser of " + n + ", time " + k, x.execute(0, -2), k % n);
@@ -84,7 +84,7 @@ final class P08ExecuteTest {
     }
 
     private static void chooserCountsRejected() {
-        LoopGroup x = new LoopGroup(3);
+        Group x = new Group(3);
         x.task();
         for (int k = 0; k < 24; k++) {
             x.execute(0, 1);

@@ -17,7 +17,7 @@ final class P09TimerTest {
     }
 
     private static void numbersAndLog() {
-        LoopGroup x = new LoopGroup(2);
+        Group x = new Group(2);
         x.task();
         Check.same("first", x.timer(0, 5, 1), 0);
         Check.same("second", x.timer(0, 5, 1), 1);
@@ -28,7 +28,7 @@ final class P09TimerTest {
     }
 
     private static void wrong() {
-        LoopGroup x = new LoopGroup(2);
+        Group x = new Group(2);
         x.task();
         Check.illegalArgument("task 1", () -> x.timer(1, 0, 0));
         Check.illegalArgument("task -1", () -> x.timer(-1, 0, 0));
@@ -41,7 +41,7 @@ final class P09TimerTest {
     }
 
     private static void deadlines() {
-        LoopGroup x = new LoopGroup(1);
+        Group x = new Group(1);
         x.task();
         x.advance(100);
         x.timer(0, 10, 0);
@@ -57,7 +57,7 @@ final class P09TimerTest {
     }
 
     private static void orderOfDeadlinesThenNumbers() {
-        LoopGroup x = new LoopGroup(1);
+        Group x = new Group(1);
         for (int k = 0; k < 5; k++) {
             x.task();
         }
@@ -77,7 +77,7 @@ final class P09TimerTest {
     }
 
     private static void behindTheQueue() {
-        LoopGroup x = new LoopGroup(1);
+        Group x = new Group(1);
         x.task();
         x.task();
         x.timer(0, 0, 0);
@@ -89,7 +89,7 @@ final class P09TimerTest {
     }
 
     private static void mostAtALoop() {
-        LoopGroup x = new LoopGroup(2);
+        Group x = new Group(2);
         x.task();
         for (int k = 0; k < 24; k++) {
             Check.same("timer", x.timer(0, 1, 0), k);
@@ -103,29 +103,27 @@ final class P09TimerTest {
     }
 
     private static void mostEver() {
-        LoopGroup x = new LoopGroup(2);
-        int eight = Check.task(x, 2, 1, 0, 2, 1, 0, 2, 1, 0, 2, 1, 0, 2, 1, 0, 2, 1, 0, 2, 1, 0, 2, 1, 0);
-        x.task();
-        for (int k = 0; k < 50; k++) {
-            x.execute(eight, 0);
-            for (int step = 0; step < 9; step++) {
-                x.step(0);
-            }
+        Group x = new Group(8);
+        int eight = ManyTimers.make(x);
+        for (int number = ManyTimers.MADE; number < 400; number++) {
+            Check.same("timer", x.timer(eight, 0, 6), number);
         }
         int from = x.traced();
-        Check.illegalState("a 401st", () -> x.timer(1, 0, 1));
-        Check.traceIs("rejected", x, from, "-1:4:1");
-        Check.same("its loop is not started by it", x.loop(1, 0), 1);
-        Check.same("timer 399 was the last", x.cancel(399), false);
-        x.execute(eight, 0);
+        Check.illegalState("a 401st", () -> x.timer(eight, 0, 6));
+        Check.illegalState("and one of a loop that is not started", () -> x.timer(eight, 0, 7));
+        Check.traceIs("rejected", x, from, "-1:4:0 -1:4:0");
+        Check.same("its loop is not started by it", x.loop(7, 0), 1);
+        Check.same("the 400th waits", x.cancel(399), true);
+        Check.illegalState("400 ever, not at once", () -> x.timer(eight, 0, 6));
+        x.execute(eight, 7);
         from = x.traced();
-        x.step(0);
+        x.step(7);
         Check.traceIs("orders are rejected too", x, from,
-            "0:1:0 0:4:1 0:4:1 0:4:1 0:4:1 0:4:1 0:4:1 0:4:1 0:4:1");
+            "7:1:0 7:4:0 7:4:0 7:4:0 7:4:0 7:4:0 7:4:0 7:4:0 7:4:0");
     }
 
     private static void farDeadline() {
-        LoopGroup x = new LoopGroup(1);
+        Group x = new Group(1);
         x.task();
         x.advance(1000000);
         x.timer(0, Integer.MAX_VALUE, 0);
@@ -134,7 +132,7 @@ final class P09TimerTest {
     }
 
     private static void shuttingDown() {
-        LoopGroup x = new LoopGroup(1);
+        Group x = new Group(1);
         x.task();
         x.shutdown(5, 5);
         int from = x.traced();
@@ -146,7 +144,7 @@ final class P09TimerTest {
     }
 
     private static void onlyAtTheBatchsBegin() {
-        LoopGroup x = new LoopGroup(1);
+        Group x = new Group(1);
         x.task();
         x.task();
         x.timer(1, 1, 0);
@@ -166,7 +164,7 @@ final class P09TimerTest {
     }
 
     private static void roomInTheQueue() {
-        LoopGroup x = new LoopGroup(1);
+        Group x = new Group(1);
         x.task();
         x.task();
         for (int k = 0; k < 5; k++) {
@@ -185,7 +183,7 @@ final class P09TimerTest {
     }
 
     private static void allOfALoopAreDue() {
-        LoopGroup x = new LoopGroup(1);
+        Group x = new Group(1);
         x.task();
         for (int k = 0; k < 24; k++) {
             x.timer(0, k % 3, 0);

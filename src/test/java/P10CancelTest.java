@@ -1,7 +1,7 @@
 /** Promise 10: whether a timer was there, and went. */
 final class P10CancelTest {
     public static void main(String[] args) {
-        LoopGroup x = new LoopGroup(3);
+        Group x = new Group(3);
         x.task();
         x.timer(0, 5, 0);
         x.timer(0, 5, 2);
@@ -25,7 +25,7 @@ final class P10CancelTest {
     }
 
     private static void ofALoopThatShutsDown() {
-        LoopGroup x = new LoopGroup(1);
+        Group x = new Group(1);
         x.task();
         x.timer(0, 5, 0);
         x.timer(0, 5, 0);

@@ -11,7 +11,7 @@ final class P11CompleteTest {
 
     private static void states() {
         for (int how = 1; how <= 3; how++) {
-            LoopGroup x = new LoopGroup(1);
+            Group x = new Group(1);
             x.promise(0);
             Check.same("complete " + how, x.complete(0, how, -7), true);
             Check.same("state " + how, x.look(0, 0), how);
@@ -27,7 +27,7 @@ final class P11CompleteTest {
 
     private static void pinned() {
         for (int how = 1; how <= 2; how++) {
-            LoopGroup x = new LoopGroup(1);
+            Group x = new Group(1);
             x.promise(0);
             x.promise(0);
             Check.same("pin", x.complete(0, 4, 9), true);
@@ -43,7 +43,7 @@ final class P11CompleteTest {
     }
 
     private static void wrong() {
-        LoopGroup x = new LoopGroup(1);
+        Group x = new Group(1);
         x.promise(0);
         Check.illegalArgument("promise 1", () -> x.complete(1, 1, 0));
         Check.illegalArgument("promise -1", () -> x.complete(-1, 1, 0));
@@ -55,7 +55,7 @@ final class P11CompleteTest {
     }
 
     private static void listenersAreExecutedInOrder() {
-        LoopGroup x = new LoopGroup(2);
+        Group x = new Group(2);
         x.promise(1);
         for (int k = 0; k < 3; k++) {
             Check.task(x, 0, 20 + k, 0);
@@ -75,7 +75,7 @@ final class P11CompleteTest {
     }
 
     private static void rejectedListenersAreNotTold() {
-        LoopGroup x = new LoopGroup(1);
+        Group x = new Group(1);
         x.promise(0);
         x.task();
         x.task();

@@ -8,7 +8,7 @@ final class P12ListenTest {
     }
 
     private static void limits() {
-        LoopGroup x = new LoopGroup(1);
+        Group x = new Group(1);
         x.promise(0);
         x.promise(0);
         x.task();
@@ -32,7 +32,7 @@ final class P12ListenTest {
     }
 
     private static void ofOneThatIsDone() {
-        LoopGroup x = new LoopGroup(2);
+        Group x = new Group(2);
         x.promise(1);
         Check.task(x, 0, 3, 0);
         x.complete(0, 3, 0);
@@ -43,7 +43,7 @@ final class P12ListenTest {
     }
 
     private static void rejectedIsNotTold() {
-        LoopGroup x = new LoopGroup(1);
+        Group x = new Group(1);
         x.promise(0);
         x.task();
         x.complete(0, 1, 0);

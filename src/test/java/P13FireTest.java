@@ -8,7 +8,7 @@ final class P13FireTest {
     }
 
     private static void wrong() {
-        LoopGroup x = new LoopGroup(1);
+        Group x = new Group(1);
         Check.illegalArgument("no channel yet", () -> x.fire(0, 1));
         x.channels(0, 0);
         Check.illegalArgument("channel 2", () -> x.fire(2, 1));
@@ -17,7 +17,7 @@ final class P13FireTest {
     }
 
     private static void executed() {
-        LoopGroup x = new LoopGroup(2);
+        Group x = new Group(2);
         x.channels(0, 1);
         x.fire(1, -5);
         Check.same("started", x.loop(1, 0), 2);
@@ -31,7 +31,7 @@ final class P13FireTest {
     }
 
     private static void rejected() {
-        LoopGroup x = new LoopGroup(1);
+        Group x = new Group(1);
         x.channels(0, 0);
         x.task();
         for (int k = 0; k < 12; k++) {

@@ -17,7 +17,7 @@ final class P14ShutdownTest {
     }
 
     private static void wrong() {
-        LoopGroup x = new LoopGroup(1);
+        Group x = new Group(1);
         Check.illegalArgument("quiet above timeout", () -> x.shutdown(3, 2));
         Check.illegalArgument("quiet -1", () -> x.shutdown(-1, 2));
         Check.illegalArgument("both below 0", () -> x.shutdown(-2, -1));
@@ -28,7 +28,7 @@ final class P14ShutdownTest {
     }
 
     private static void statesOfAll() {
-        LoopGroup x = new LoopGroup(4);
+        Group x = new Group(4);
         x.task();
         x.execute(0, 2);
         x.shutdown(1, 1);
@@ -40,7 +40,7 @@ final class P14ShutdownTest {
     }
 
     private static void quietPeriod() {
-        LoopGroup x = new LoopGroup(1);
+        Group x = new Group(1);
         x.advance(50);
         x.shutdown(5, 100);
         Check.same("at once", x.step(0), 0);
@@ -57,7 +57,7 @@ final class P14ShutdownTest {
     }
 
     private static void tasksMakeItWait() {
-        LoopGroup x = new LoopGroup(1);
+        Group x = new Group(1);
         Check.task(x, 0, 1, 0);
         x.shutdown(5, 100);
         x.advance(4);
@@ -72,7 +72,7 @@ final class P14ShutdownTest {
     }
 
     private static void messagesAndListenersToo() {
-        LoopGroup x = new LoopGroup(2);
+        Group x = new Group(2);
         x.channels(0, 0);
         x.task();
         x.promise(1);
@@ -92,7 +92,7 @@ final class P14ShutdownTest {
     }
 
     private static void timeout() {
-        LoopGroup x = new LoopGroup(1);
+        Group x = new Group(1);
         x.task();
         x.advance(7);
         x.shutdown(5, 8);
@@ -109,7 +109,7 @@ final class P14ShutdownTest {
     }
 
     private static void quietOfZero() {
-        LoopGroup x = new LoopGroup(1);
+        Group x = new Group(1);
         x.task();
         x.execute(0, 0);
         x.shutdown(0, 1000);
@@ -118,7 +118,7 @@ final class P14ShutdownTest {
     }
 
     private static void lateIsNotLookedAtWhileTasksRun() {
-        LoopGroup x = new LoopGroup(1);
+        Group x = new Group(1);
         Check.task(x, 1, 0, -1);
         x.execute(0, 0);
         x.shutdown(1, 1);
@@ -130,7 +130,7 @@ final class P14ShutdownTest {
     }
 
     private static void aSecondOneChangesNothing() {
-        LoopGroup x = new LoopGroup(1);
+        Group x = new Group(1);
         x.shutdown(5, 9);
         x.advance(3);
         x.shutdown(0, 0);
@@ -140,7 +140,7 @@ final class P14ShutdownTest {
     }
 
     private static void timersGo() {
-        LoopGroup x = new LoopGroup(1);
+        Group x = new Group(1);
         Check.task(x, 2, 0, 3, 0, 5, 0);
         x.timer(0, 0, 0);
         x.timer(0, 9, 0);
@@ -158,7 +158,7 @@ final class P14ShutdownTest {
     }
 
     private static void timersInTheQueueStay() {
-        LoopGroup x = new LoopGroup(1);
+        Group x = new Group(1);
         x.task();
         x.timer(0, 0, 0);
         x.timer(0, 0, 0);
@@ -169,7 +169,7 @@ final class P14ShutdownTest {
     }
 
     private static void blockedStaysBlocked() {
-        LoopGroup x = new LoopGroup(2);
+        Group x = new Group(2);
         x.promise(1);
         Check.task(x, 8, 0, 0, 0, 4, 0);
         x.timer(0, 50, 0);
@@ -188,7 +188,7 @@ final class P14ShutdownTest {
     }
 
     private static void resumingIsNoBegin() {
-        LoopGroup x = new LoopGroup(2);
+        Group x = new Group(2);
         x.promise(1);
         Check.task(x, 8, 0, 0);
         x.shutdown(5, 100);
@@ -204,7 +204,7 @@ final class P14ShutdownTest {
     }
 
     private static void beganBefore() {
-        LoopGroup x = new LoopGroup(1);
+        Group x = new Group(1);
         x.task();
         x.execute(0, 0);
         x.step(0);

@@ -11,7 +11,7 @@ final class P15StepTest {
     }
 
     private static void wrong() {
-        LoopGroup x = new LoopGroup(2);
+        Group x = new Group(2);
         Check.illegalArgument("loop 2", () -> x.step(2));
         Check.illegalArgument("loop -1", () -> x.step(-1));
         Check.illegalArgument("loop -2", () -> x.step(-2));
@@ -19,7 +19,7 @@ final class P15StepTest {
     }
 
     private static void answers() {
-        LoopGroup x = new LoopGroup(2);
+        Group x = new Group(2);
         x.task();
         Check.same("not started", x.step(0), 0);
         Check.same("it stays so", x.loop(0, 0), 1);
@@ -34,7 +34,7 @@ final class P15StepTest {
     }
 
     private static void batches() {
-        LoopGroup x = new LoopGroup(1);
+        Group x = new Group(1);
         x.task();
         x.task();
         x.timer(1, 0, 0);
@@ -64,7 +64,7 @@ final class P15StepTest {
     }
 
     private static void blockedAndOn() {
-        LoopGroup x = new LoopGroup(2);
+        Group x = new Group(2);
         x.promise(1);
         Check.task(x, 0, 1, 0, 8, 0, 0, 0, 2, 0, 9, 0, 0);
         x.task();
@@ -85,7 +85,7 @@ final class P15StepTest {
     }
 
     private static void blockedAgain() {
-        LoopGroup x = new LoopGroup(2);
+        Group x = new Group(2);
         x.promise(1);
         x.promise(1);
         Check.task(x, 8, 0, 0, 8, 1, 0, 8, 0, 0, 0, 3, 0);
@@ -101,7 +101,7 @@ final class P15StepTest {
     }
 
     private static void otherLoopsStandStill() {
-        LoopGroup x = new LoopGroup(2);
+        Group x = new Group(2);
         Check.task(x, 1, 1, 1);
         Check.task(x, 0, 1, 0);
         x.execute(0, 0);

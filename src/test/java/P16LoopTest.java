@@ -1,7 +1,7 @@
 /** Promise 16: what can be asked of a loop. */
 final class P16LoopTest {
     public static void main(String[] args) {
-        LoopGroup x = new LoopGroup(2);
+        Group x = new Group(2);
         Check.illegalArgument("loop 2", () -> x.loop(2, 0));
         Check.illegalArgument("loop -1", () -> x.loop(-1, 0));
         Check.illegalArgument("what 5", () -> x.loop(0, 5));
@@ -32,7 +32,7 @@ final class P16LoopTest {
         Check.end();
     }
 
-    private static void all(LoopGroup x, String when, int loop, int... due) {
+    private static void all(Group x, String when, int loop, int... due) {
         for (int what = 0; what < due.length; what++) {
             Check.same(when + ": loop(" + loop + ", " + what + ")", x.loop(loop, what), due[what]);
         }

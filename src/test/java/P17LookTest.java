@@ -1,7 +1,7 @@
 /** Promise 17: what can be asked of a promise. */
 final class P17LookTest {
     public static void main(String[] args) {
-        LoopGroup x = new LoopGroup(1);
+        Group x = new Group(1);
         x.promise(0);
         x.promise(0);
         x.task();
@@ -22,7 +22,7 @@ final class P17LookTest {
         Check.end();
     }
 
-    private static void all(LoopGroup x, String when, int promise, int... due) {
+    private static void all(Group x, String when, int promise, int... due) {
         for (int what = 0; what < due.length; what++) {
             Check.same(when + ": look(" + promise + ", " + what + ")", x.look(promise, what), due[what]);
         }

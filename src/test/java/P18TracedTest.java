@@ -1,7 +1,7 @@
 /** Promise 18: how many entries the trace has had, those that are kept no more among them. */
 final class P18TracedTest {
     public static void main(String[] args) {
-        LoopGroup x = new LoopGroup(1);
+        Group x = new Group(1);
         int task = Check.task(x, 0, 1, 0, 0, 2, 0, 0, 3, 0, 0, 4, 0, 0, 5, 0, 0, 6, 0, 0, 7, 0, 0, 8, 0);
         Check.same("none", x.traced(), 0);
         x.execute(task, 0);

@@ -7,7 +7,7 @@ final class P19TraceTest {
     }
 
     private static void small() {
-        LoopGroup x = new LoopGroup(2);
+        Group x = new Group(2);
         Check.outOfBounds("none yet", () -> x.trace(0, 0));
         int task = Check.task(x, 0, -8, 0);
         x.execute(task, 1);
@@ -28,7 +28,7 @@ final class P19TraceTest {
     }
 
     private static void latest300() {
-        LoopGroup x = new LoopGroup(1);
+        Group x = new Group(1);
         x.task();
         for (int k = 0; k < 24; k++) {
             x.execute(0, 0);
@@ -49,7 +49,7 @@ final class P19TraceTest {
         Check.outOfBounds("not yet there", () -> x.trace(302, 0));
     }
 
-    private static void reject(LoopGroup x) {
+    private static void reject(Group x) {
         Check.illegalState("rejected", () -> x.execute(0, 0));
     }
 }

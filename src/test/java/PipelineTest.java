@@ -17,8 +17,8 @@ final class PipelineTest {
     }
 
     /** A group with channels 0 and 1 on loop 0, the handlers of these kinds (task 0) at channel 0. */
-    private static LoopGroup group(int... kinds) {
-        LoopGroup x = new LoopGroup(2);
+    private static Group group(int... kinds) {
+        Group x = new Group(2);
         x.task();
         x.channels(0, 0);
         for (int kind : kinds) {
@@ -27,7 +27,7 @@ final class PipelineTest {
         return x;
     }
 
-    private static String fired(LoopGroup x, int message) {
+    private static String fired(Group x, int message) {
         x.fire(0, message);
         int from = x.traced();
         x.step(0);
@@ -35,20 +35,20 @@ final class PipelineTest {
     }
 
     private static void passesAndAdds() {
-        LoopGroup x = group(0, 0, 1, 1, 0);
+        Group x = group(0, 0, 1, 1, 0);
         Check.same("2 and 3 are added", fired(x, 10), "0:1:-1 0:6:10 0:6:1000010 0:6:2000010 0:6:3000012 0:6:4000015 0:8:15");
         x.handler(0, 0, 0, 0);
         Check.same("its number, not its place", fired(x, 10), "0:1:-1 0:6:1000010 0:6:2000010 0:6:3000012 0:6:4000015 0:8:15");
     }
 
     private static void addsAsAnInt() {
-        LoopGroup x = group(0, 1);
+        Group x = group(0, 1);
         int most = Integer.MAX_VALUE;
         Check.same("wrapped round", fired(x, most), "0:1:-1 0:6:" + most + " 0:6:" + (1000000 + most) + " 0:8:" + (most + 1));
     }
 
     private static void swallowsOdd() {
-        LoopGroup x = group(2, 0);
+        Group x = group(2, 0);
         Check.same("4", fired(x, 4), "0:1:-1 0:6:4 0:6:1000004 0:8:4");
         Check.same("5", fired(x, 5), "0:1:-1 0:6:5");
         Check.same("-5", fired(x, -5), "0:1:-1 0:6:-5");
@@ -57,7 +57,7 @@ final class PipelineTest {
     }
 
     private static void echoes() {
-        LoopGroup x = new LoopGroup(2);
+        Group x = new Group(2);
         x.channels(0, 1);
         x.handler(0, 3, 0, -1);
         x.handler(0, 1, 0, -1);
@@ -72,13 +72,13 @@ final class PipelineTest {
     }
 
     private static void echoesOnOneLoop() {
-        LoopGroup x = group(3, 0);
+        Group x = group(3, 0);
         x.handler(1, 0, 0, -1);
         Check.same("now, before it is passed on", fired(x, 7), "0:1:-1 0:6:7 0:6:2000007 0:8:7 0:6:1000007 0:8:7");
     }
 
     private static void runsItsTask() {
-        LoopGroup x = group(4, 0);
+        Group x = group(4, 0);
         x.order(0, 0, 60, 0);
         Check.same("1 is not logged", fired(x, 7), "0:1:-1 0:6:7 0:0:60 0:6:1000007 0:8:7");
         x.order(0, 9, 0, 0);
@@ -87,7 +87,7 @@ final class PipelineTest {
     }
 
     private static void throwsOnThrees() {
-        LoopGroup x = group(5, 0);
+        Group x = group(5, 0);
         Check.same("4", fired(x, 4), "0:1:-1 0:6:4 0:6:1000004 0:8:4");
         for (int message : new int[] {3, 0, -3, -6, 2147483646}) {
             Check.same("to the end: " + message, fired(x, message), "0:1:-1 0:6:" + message + " 0:2:-1");
@@ -102,7 +102,7 @@ final class PipelineTest {
     }
 
     private static void skipsWhatIsNotTheirs() {
-        LoopGroup x = group(6, 5, 4, 3, 2, 6);
+        Group x = group(6, 5, 4, 3, 2, 6);
         x.order(0, 0, 60, 0);
         Check.same("one before it catches nothing, those between get nothing", fired(x, 9), "0:1:-1 0:6:1000009");
         x.handler(0, 0, 0, 5);
@@ -112,7 +112,7 @@ final class PipelineTest {
     }
 
     private static void fireOrders() {
-        LoopGroup x = group(0);
+        Group x = group(0);
         x.order(0, 10, 0, 8);
         x.order(0, 0, 1, 0);
         x.execute(0, 0);
@@ -125,7 +125,7 @@ final class PipelineTest {
     }
 
     private static void writeOrders() {
-        LoopGroup x = new LoopGroup(3);
+        Group x = new Group(3);
         x.channels(0, 1);
         x.handler(0, 0, 0, -1);
         x.handler(1, 0, 0, -1);
@@ -140,13 +140,13 @@ final class PipelineTest {
     }
 
     private static void fourWithinOneAnother() {
-        LoopGroup x = group(3);
+        Group x = group(3);
         x.handler(1, 3, 0, -1);
         Check.same("the message of the queue and three within it", fired(x, 7),
             "0:1:-1 0:6:7 0:6:1000007 0:6:7 0:6:1000007 0:8:7 0:8:7 0:8:7 0:8:7");
         Check.same("the fifth is executed", x.loop(0, 1), 1);
         x.step(0);
-        LoopGroup y = group(4);
+        Group y = group(4);
         y.order(0, 10, 0, 2);
         y.execute(0, 0);
         y.step(0);
@@ -155,7 +155,7 @@ final class PipelineTest {
     }
 
     private static void nestingIsRejected() {
-        LoopGroup x = group(3);
+        Group x = group(3);
         x.handler(1, 3, 0, -1);
         x.fire(0, 7);
         for (int k = 0; k < 23; k++) {

@@ -22,8 +22,8 @@ final class WorkLimitTest {
      * three times FIRES, which is 8 * (1 + 5 * 8) orders by the five handlers of channel 0 that run LEAF,
      * and once LEAF. LEAF's orders are of a kind with a number a. One place is free for a last handler.
      */
-    private static LoopGroup busy(int more, int kind, int a) {
-        LoopGroup x = new LoopGroup(3);
+    private static Group busy(int more, int kind, int a) {
+        Group x = new Group(3);
         x.promise(1);
         for (int pair = 0; pair < 2; pair++) {
             x.channels(0, 1);
@@ -47,26 +47,27 @@ final class WorkLimitTest {
         return x;
     }
 
-    private static LoopGroup stepped(LoopGroup x) {
+    private static Group stepped(Group x) {
         x.fire(2, 1);
         Check.same("it ends", x.step(0), 1);
         return x;
     }
 
-    private static String tail(LoopGroup x, int entries) {
+    private static String tail(Group x, int entries) {
         return Check.trace(x, x.traced() - entries);
     }
 
-    private static int logged(LoopGroup x, int kind) {
+    private static int logged(Group x, int kind) {
         int count = 0;
-        for (int k = Math.max(0, x.traced() - 300); k < x.traced(); k++) {
+        int end = x.traced();
+        for (int k = Math.max(0, end - 300); k < end; k++) {
             count += x.trace(k, 1) == kind ? 1 : 0;
         }
         return count;
     }
 
     private static void theThousandthIsDone() {
-        LoopGroup x = stepped(busy(8, 0, 5));
+        Group x = stepped(busy(8, 0, 5));
         Check.same("all of the last task", tail(x, 4), "0:0:75 0:0:76 0:0:77 0:8:1");
         Check.same("no throw", logged(x, 2), 0);
         // Start and begin, 5 handlers, 24 messages of 5 handlers and an end, 1,000 orders but the 24, the end.
@@ -74,21 +75,21 @@ final class WorkLimitTest {
     }
 
     private static void anOrderMoreIsAThrow() {
-        LoopGroup x = busy(8, 0, 5);
+        Group x = busy(8, 0, 5);
         int more = Check.task(x, 0, 99, 0);
         x.handler(2, 4, more, -1);
         Check.same("its first order", tail(stepped(x), 4), "0:0:77 0:6:10000001 0:2:3 0:8:1");
-        LoopGroup y = busy(7, 0, 5);
+        Group y = busy(7, 0, 5);
         more = Check.task(y, 0, 99, 0, 0, 98, 0);
         y.handler(2, 4, more, -1);
         Check.same("its second", tail(stepped(y), 5), "0:0:76 0:6:10000001 0:0:99 0:2:3 0:8:1");
-        LoopGroup z = busy(8, 0, 5);
+        Group z = busy(8, 0, 5);
         z.handler(2, 4, z.task(), -1);
         Check.same("one without orders does not throw", tail(stepped(z), 3), "0:0:77 0:6:10000001 0:8:1");
     }
 
     private static void everyOpenTaskThrows() {
-        LoopGroup x = busy(7, 0, 5);
+        Group x = busy(7, 0, 5);
         x.handler(2, 4, FIRES, -1);
         Check.same("the inner ones, then the outer one", tail(stepped(x), 14),
             "0:6:10000001 0:6:1 0:2:0 0:6:1000001 0:2:0 0:6:2000001 0:2:0 0:6:3000001 0:2:0 0:6:4000001 0:2:0 "
@@ -96,10 +97,10 @@ final class WorkLimitTest {
     }
 
     private static void refusedAndRejectedOrdersCount() {
-        LoopGroup refused = busy(8, 8, 0);
+        Group refused = busy(8, 8, 0);
         refused.handler(2, 4, Check.task(refused, 0, 99, 0), -1);
         Check.same("refused awaits", tail(stepped(refused), 2), "0:2:3 0:8:1");
-        LoopGroup rejected = busy(8, 1, LAST);
+        Group rejected = busy(8, 1, LAST);
         rejected.handler(2, 4, Check.task(rejected, 0, 99, 0), -1);
         Check.same("rejected tasks", tail(stepped(rejected), 2), "0:2:3 0:8:1");
         Check.same("most were", rejected.loop(2, 1), 24);
@@ -110,7 +111,7 @@ final class WorkLimitTest {
      * messages 34 are left: FIRE, four LEAFs, one LOG of the fifth.
      */
     private static void echoesCount() {
-        LoopGroup x = busy(0, 0, 5);
+        Group x = busy(0, 0, 5);
         x.handler(2, 0, 0, 4);
         x.handler(2, 0, 0, 3);
         x.handler(0, 3, 0, -1);
@@ -120,12 +121,12 @@ final class WorkLimitTest {
     }
 
     private static void anEchoMoreIsNotWritten() {
-        LoopGroup x = busy(7, 0, 5);
+        Group x = busy(7, 0, 5);
         x.handler(2, 3, 0, -1);
         stepped(x);
         Check.same("the 1,000th is an echo", x.loop(1, 1), 1);
         Check.same("passed on", tail(x, 4), "0:0:76 0:6:10000001 1:7:2 0:8:1");
-        LoopGroup y = busy(8, 0, 5);
+        Group y = busy(8, 0, 5);
         y.handler(2, 3, 0, -1);
         stepped(y);
         Check.same("an echo more", y.loop(1, 1), 0);
@@ -133,14 +134,14 @@ final class WorkLimitTest {
     }
 
     private static void theNextStepBeginsAnew() {
-        LoopGroup x = stepped(busy(8, 0, 5));
+        Group x = stepped(busy(8, 0, 5));
         x.execute(LAST, 0);
         x.step(0);
         Check.same("no throw", tail(x, 3), "0:0:75 0:0:76 0:0:77");
     }
 
     private static void goingOnBeginsAnew() {
-        LoopGroup x = busy(8, 0, 5);
+        Group x = busy(8, 0, 5);
         x.handler(2, 0, 0, 4);
         int task = Check.task(x, 10, 2, 1, 8, 0, 0, 0, 80, 0, 0, 81, 0, 10, 2, 1, 0, 82, 0);
         x.execute(task, 0);
@@ -152,7 +153,7 @@ final class WorkLimitTest {
     }
 
     private static void theAwaitIsOfTheStepBefore() {
-        LoopGroup x = busy(7, 0, 5);
+        Group x = busy(7, 0, 5);
         x.execute(Check.task(x, 8, 0, 0, 10, 2, 1), 0);
         x.step(0);
         x.complete(0, 1, 0);
