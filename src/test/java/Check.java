@@ -5,6 +5,7 @@ final class Check {
     }
 
     private static int wrong = 0;
+    private static String place = "";
 
     private Check() {
     }
@@ -35,6 +36,37 @@ final class Check {
 
     static void outOfBounds(String what, Act act) {
         thrown(what, act, IndexOutOfBoundsException.class);
+    }
+
+    /** Numbers that are none of 0 .. count - 1: the nearest, the farthest, and some that a product brings back. */
+    static int[] outside(int count) {
+        return new int[] {
+            -1, count, count + 1, -count - 3, 1 << 16, 1 << 28, 1 << 29, -(1 << 29), Integer.MAX_VALUE, Integer.MIN_VALUE};
+    }
+
+    /** The host's call can't be: the exception, and nothing at all has changed. */
+    static void cannotBe(String what, Group group, Act act) {
+        refused(what, group, IllegalArgumentException.class, act);
+    }
+
+    /** There is no room for it: the exception, and nothing at all has changed. */
+    static void isFull(String what, Group group, Act act) {
+        refused(what, group, IllegalStateException.class, act);
+    }
+
+    static void refused(String what, Group group, Class<?> due, Act act) {
+        String before = Inside.all(group);
+        thrown(what, act, due);
+        same(what + " leaves all as it was", Inside.all(group).equals(before), true);
+    }
+
+    /** The host's call is rejected: 4 is logged with this value, and nothing else has changed. */
+    static void rejected(String what, Group group, int value, Act act) {
+        String before = Inside.allButTrace(group);
+        int from = group.traced();
+        thrown(what, act, IllegalStateException.class);
+        traceIs(what, group, from, "-1:4:" + value);
+        same(what + " leaves all else as it was", Inside.allButTrace(group).equals(before), true);
     }
 
     private static void thrown(String what, Act act, Class<?> due) {
@@ -75,9 +107,14 @@ final class Check {
         return task;
     }
 
+    /** What the faults told from now on belong to. */
+    static void within(String what) {
+        place = what.isEmpty() ? "" : "\"" + what + "\": ";
+    }
+
     static void tell(String fault) {
         wrong++;
-        System.out.println(fault);
+        System.out.println(place + fault);
     }
 
     static void end() {
