@@ -55,18 +55,18 @@ final class Check {
     }
 
     static void refused(String what, Group group, Class<?> due, Act act) {
-        String before = Inside.all(group);
+        long before = Inside.all(group);
         thrown(what, act, due);
-        same(what + " leaves all as it was", Inside.all(group).equals(before), true);
+        same(what + " leaves all as it was", Inside.all(group), before);
     }
 
     /** The host's call is rejected: 4 is logged with this value, and nothing else has changed. */
     static void rejected(String what, Group group, int value, Act act) {
-        String before = Inside.allButTrace(group);
+        long before = Inside.allButTrace(group);
         int from = group.traced();
         thrown(what, act, IllegalStateException.class);
         traceIs(what, group, from, "-1:4:" + value);
-        same(what + " leaves all else as it was", Inside.allButTrace(group).equals(before), true);
+        same(what + " leaves all else as it was", Inside.allButTrace(group), before);
     }
 
     private static void thrown(String what, Act act, Class<?> due) {

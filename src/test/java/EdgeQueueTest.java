@@ -254,15 +254,15 @@ final class EdgeQueueTest {
     private static void stepsOfNothing() {
         Group x = new Group(2);
         x.task();
-        String before = Inside.all(x);
+        long before = Inside.all(x);
         Check.same("not started", x.step(0), 0);
-        Check.same("all is as it was", Inside.all(x).equals(before), true);
+        Check.same("all is as it was", Inside.all(x), before);
         x.shutdown(0, 0);
         Check.same("terminated", x.step(0), 3);
         x.advance(5);
         before = Inside.all(x);
         Check.same("a step more", x.step(0), 0);
-        Check.same("all is as it was then", Inside.all(x).equals(before), true);
+        Check.same("all is as it was then", Inside.all(x), before);
     }
 
     private static void emptyQueue() {
@@ -298,9 +298,9 @@ final class EdgeQueueTest {
         Check.same("nothing is logged", x.traced(), traced);
         Check.same("nothing leaves the queue", x.loop(0, 1), 1);
         Check.same("no timer goes there", x.loop(0, 2), 2);
-        String before = Inside.all(x);
+        long before = Inside.all(x);
         Check.same("blocked still", x.step(0), 2);
-        Check.same("all is as it was", Inside.all(x).equals(before), true);
+        Check.same("all is as it was", Inside.all(x), before);
         x.complete(0, 1, 0);
         Check.same("it goes on", x.step(0), 1);
         Check.same("no batch began with that", x.loop(0, 4), 0);
