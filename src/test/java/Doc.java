@@ -25,7 +25,8 @@ final class Doc {
         Check.within("");
     }
 
-    private static String document() {
+    /** The whole text, on one line. */
+    static String document() {
         if (text == null) {
             try {
                 text = Files.readString(DOCUMENT).replaceAll("\\s+", " ");

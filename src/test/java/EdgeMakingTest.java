@@ -256,6 +256,35 @@ final class EdgeMakingTest {
             }
             Check.same("the other channel's stays", x.handler(1, 0, 0, 0), 0);
         }
+        kindsAndTasksMoveUp();
+    }
+
+    private static void kindsAndTasksMoveUp() {
+        Group x = new Group(1);
+        x.channels(0, 0);
+        x.task();
+        Check.task(x, 0, 71, 0);
+        Check.task(x, 0, 72, 0);
+        for (int kind : new int[] {0, 4, 4, 1, 2}) {
+            x.handler(0, kind, kind == 4 ? 1 : 0, -1);
+        }
+        x.handler(0, 4, 2, -1);
+        x.handler(1, 5, 0, -1);
+        x.handler(0, 0, 0, 2);
+        x.handler(0, 0, 0, 0);
+        x.fire(0, 5);
+        x.fire(1, 3);
+        x.step(0);
+        x.step(0);
+        Check.traceIs("kinds and tasks go with them", x,
+            "0:7:2 0:1:-1 0:6:1000005 0:0:71 0:6:3000005 0:6:4000008 0:6:5000008 0:0:72 0:8:8 0:1:-1 0:6:6000003 0:2:-2");
+        x.handler(0, 0, 0, 2);
+        x.handler(0, 0, 0, 2);
+        x.handler(0, 0, 0, 0);
+        x.fire(0, 5);
+        int from = x.traced();
+        x.step(0);
+        Check.traceIs("until one is left", x, from, "0:1:-1 0:6:3000005 0:8:8");
     }
 
     private static void kindAndTaskDoNotMatter() {

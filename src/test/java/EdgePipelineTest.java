@@ -72,6 +72,11 @@ final class EdgePipelineTest {
         Check.traceIs("each has its own six", x, "0:7:2 "
             + "0:1:-1 0:6:1 0:6:16000001 0:6:32000001 0:6:48000001 0:6:64000001 0:6:80000001 0:8:1 "
             + "0:1:-1 0:6:15000001 0:6:31000001 0:6:47000001 0:6:63000001 0:6:79000001 0:6:95000001 0:8:1");
+        Check.same("the last of the last", x.handler(15, 0, 0, 5), 95);
+        Check.same("the first of the last", x.handler(15, 0, 0, 0), 15);
+        Check.same("the first of the first", x.handler(0, 0, 0, 0), 0);
+        Check.same("the one behind it is the first now", x.handler(0, 0, 0, 0), 16);
+        Check.same("the next channel's stay", x.handler(1, 0, 0, 0), 1);
     }
 
     private static void addsWrap() {

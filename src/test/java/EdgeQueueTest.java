@@ -247,6 +247,11 @@ final class EdgeQueueTest {
         x.step(0);
         x.step(0);
         Check.traceIs("of those that are gone it does nothing; one in the queue runs", x, from, "0:1:0 0:0:5 0:1:1");
+        x.promise(0);
+        x.promise(0);
+        x.execute(task, 1);
+        x.step(1);
+        Check.same("promises of these numbers are none of its business", x.look(0, 0) + x.look(1, 0), 0);
         Check.same("nor does the host's", x.cancel(0) || x.cancel(1) || x.cancel(2), false);
         Check.same("but of one that waits", x.cancel(3), true);
     }
@@ -323,6 +328,24 @@ final class EdgeQueueTest {
         Check.traceIs("the await was its 8th order", x, from, "0:10:0");
         Check.same("not blocked", x.loop(0, 3), 0);
         Check.same("nothing more", x.step(0), 0);
+        eachLoopItsOwn();
+    }
+
+    private static void eachLoopItsOwn() {
+        Group x = new Group(3);
+        x.promise(2);
+        Check.task(x, 0, 1, 0);
+        Check.task(x, 0, 2, 0, 8, 0, 0, 0, 3, 0);
+        Check.task(x, 8, 0, 0, 0, 4, 0);
+        x.execute(1, 0);
+        x.execute(2, 1);
+        x.step(0);
+        x.step(1);
+        x.complete(0, 1, 0);
+        int from = x.traced();
+        x.step(1);
+        x.step(0);
+        Check.traceIs("the task that it was in", x, from, "1:10:0 1:0:4 0:10:0 0:0:3");
     }
 
     private static void batchIsOver() {
@@ -439,7 +462,15 @@ final class EdgeQueueTest {
      * channel 2 runs it three times, and then `logs` orders more by two tasks: 984 + logs.
      */
     private static Group busy(int logs) {
-        Group x = new Group(2);
+        return filled(new Group(2), logs, new int[0]);
+    }
+
+    /** The same behind a handler of a kind, the first of channel 2. */
+    private static Group busyBehind(int kind, int logs) {
+        return filled(new Group(2), logs, new int[] {kind});
+    }
+
+    private static Group filled(Group x, int logs, int[] before) {
         x.channels(0, 1);
         x.channels(0, 1);
         for (int task = 0; task < 4; task++) {
@@ -455,6 +486,9 @@ final class EdgeQueueTest {
         }
         for (int k = 0; k < 5; k++) {
             x.handler(0, 4, 1, -1);
+        }
+        for (int kind : before) {
+            x.handler(2, kind, 0, -1);
         }
         for (int task : new int[] {0, 0, 0, 2, 3}) {
             x.handler(2, 4, task, -1);
@@ -479,6 +513,9 @@ final class EdgeQueueTest {
         Group echo = busy(15);
         echo.handler(2, 3, 0, -1);
         Check.same("the 1,000th is an echo", lastOf(echo, 4), "0:0:64 0:6:10000004 1:7:2 0:8:4");
+        Check.same("an echo and 999 orders", lastOf(busyBehind(3, 15), 3), "0:0:63 0:0:64 0:8:4");
+        Check.same("an echo and 1,000 orders", lastOf(busyBehind(3, 16), 3), "0:0:64 0:2:3 0:8:4");
+        Check.same("a message that is passed on is no echo", lastOf(busyBehind(0, 16), 3), "0:0:64 0:0:65 0:8:4");
         Group moreEcho = busy(16);
         moreEcho.handler(2, 3, 0, -1);
         Check.same("an echo more", lastOf(moreEcho, 3), "0:0:65 0:6:10000004 0:8:4");

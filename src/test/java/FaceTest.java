@@ -6,15 +6,12 @@ import java.util.ArrayList;
 import java.util.Arrays;
 import java.util.List;
 import java.util.TreeSet;
+import java.util.regex.Matcher;
+import java.util.regex.Pattern;
 
 /** LANGUAGE.md's rule 1: the document's face and no member more. */
 final class FaceTest {
-    private static final String[] FACE = {
-        "int task()", "int order(int,int,int,int)", "int promise(int)", "int channels(int,int)",
-        "int handler(int,int,int,int)", "long advance(int)", "int execute(int,int)", "int timer(int,int,int)",
-        "boolean cancel(int)", "boolean complete(int,int,int)", "void listen(int,int)", "void fire(int,int)",
-        "void shutdown(int,int)", "int step(int)", "int loop(int,int)", "int look(int,int)", "int traced()",
-        "int trace(int,int)"};
+    private static final Pattern LINE = Pattern.compile("public (\\w+) (\\w+)\\(([^)]*)\\)(?: throws ([\\w, ]+))?;");
 
     public static void main(String[] args) {
         Check.same("public and final", LoopGroup.class.getModifiers() & (Modifier.PUBLIC | Modifier.FINAL),
@@ -36,7 +33,7 @@ final class FaceTest {
                 Check.same(method + " public", Modifier.isPublic(method.getModifiers()), true);
             }
         }
-        Check.same("methods", open.toString(), new TreeSet<>(Arrays.asList(FACE)).toString());
+        Check.same("methods", open.toString(), face().toString());
         List<Class<?>> all = new ArrayList<>(Arrays.asList(LoopGroup.class.getDeclaredClasses()));
         all.add(LoopGroup.class);
         for (Class<?> one : all) {
@@ -48,14 +45,30 @@ final class FaceTest {
         }
     }
 
-    private static String signature(Method method) {
-        StringBuilder text = new StringBuilder(method.getReturnType() + " " + method.getName() + "(");
-        String comma = "";
-        for (Class<?> type : method.getParameterTypes()) {
-            text.append(comma).append(type);
-            comma = ",";
+    /** The document's face, a line for each method, without the names of its parameters. */
+    private static TreeSet<String> face() {
+        TreeSet<String> lines = new TreeSet<>();
+        Matcher matcher = LINE.matcher(Doc.document());
+        while (matcher.find()) {
+            String types = matcher.group(3).replaceAll("(\\w+) \\w+", "$1");
+            String thrown = matcher.group(4) == null ? "" : matcher.group(4);
+            lines.add(matcher.group(1) + " " + matcher.group(2) + "(" + types + ") " + thrown);
         }
-        return text.append(")").toString();
+        Check.same("methods of the face", lines.size(), 18);
+        return lines;
+    }
+
+    private static String signature(Method method) {
+        return method.getReturnType() + " " + method.getName() + "(" + names(method.getParameterTypes()) + ") "
+            + names(method.getExceptionTypes());
+    }
+
+    private static String names(Class<?>[] types) {
+        StringBuilder text = new StringBuilder();
+        for (Class<?> type : types) {
+            text.append(text.length() == 0 ? "" : ", ").append(type.getSimpleName());
+        }
+        return text.toString();
     }
 
     private static void constructors() {
