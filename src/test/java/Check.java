@@ -69,7 +69,7 @@ final class Check {
         same(what + " leaves all else as it was", Inside.allButTrace(group), before);
     }
 
-    private static void thrown(String what, Act act, Class<?> due) {
+    static void thrown(String what, Act act, Class<?> due) {
         String got = "nothing";
         try {
             act.go();
