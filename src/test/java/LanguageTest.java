@@ -11,7 +11,13 @@ final class LanguageTest {
     private static final String[] RULED_OUT = {
         "->", "::", "\\bpackage\\b", "\\bimport\\b", "\\btry\\b", "\\bcatch\\b", "\\bfinally\\b", "\\bassert\\b",
         "\\bsynchronized\\b", "\\bprotected\\b", "\\bThread\\b", "\\bRandom\\b", "\\bdouble\\b", "\\bfloat\\b",
-        "\\bgetMessage\\b", "Exact\\(", "\\bvar\\b", "\\bstatic \\{", "System\\.(?!arraycopy)"};
+        "\\bgetMessage\\b", "Exact\\(", "\\bvar\\b", "\\bstatic \\{", "System\\.(?!arraycopy)", "Math\\.(?!abs|min)",
+        "\\b(Integer|Long|Arrays|String|StringBuilder|List|ArrayList|Object)\\b", "\\bwhile\\b", "\\bdo\\b"};
+    /** Rule 9: a counter against a bound. */
+    private static final Pattern LOOP = Pattern.compile("for \\(int (\\w+) = \\w+; \\1 < [^;]+; \\1\\+\\+\\) \\{");
+    /** Rule 6, as far as the document's face asks for it. */
+    private static final Pattern THROW =
+        Pattern.compile("throw new (IllegalStateException|IllegalArgumentException|IndexOutOfBoundsException)\\(\"\"\\);");
     private static final Pattern METHOD =
         Pattern.compile("^( {4}| {8})(?! |(?:return|throw|else|new)\\b)[\\w\\[\\] ]*\\b\\w+\\(([^()]*)\\).*\\{$");
 
@@ -39,6 +45,8 @@ final class LanguageTest {
         }
         boolean isVariable = line.matches(".*\\bstatic (?!final\\b).*");
         Check.same("line " + number + " has a static that is not final", isVariable, false);
+        Check.same("line " + number + " loops without a bound", line.contains("for (") && !LOOP.matcher(line).find(), false);
+        Check.same("line " + number + " throws", line.contains("throw ") && !THROW.matcher(line).find(), false);
         boolean makes = Pattern.compile("\\bnew ").matcher(line).find();
         boolean once = line.contains("throw new ") || line.matches(" {8}final .*")
             || line.matches(" {8}(runner|scheduler) = new .*") || line.matches(" {12}(scheduler|loops) = new .*")
