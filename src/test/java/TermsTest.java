@@ -29,6 +29,11 @@ final class TermsTest {
         Doc.says("One more handler (kind 0 .. 6, of kind 4 with a task) at the end of a channel's pipeline, or taken away:",
             TermsTest::handlers);
         Doc.says("Fires a message at a channel.", TermsTest::fires);
+        Doc.says("Of a loop 0 its state, 1 tasks in its queue, 2 timers, 3 whether it is blocked (1, 0), 4 how many of its batch are left.",
+            TermsTest::askedOfALoop);
+        Doc.says("Of a promise 0 its state, 1 its value, 2 how many listeners wait.", TermsTest::askedOfAPromise);
+        Doc.says("Of entry k of the trace 0 the loop, 1 the kind, 2 the value.", TermsTest::askedOfTheTrace);
+        Doc.says("IllegalArgumentException, IllegalStateException: as said.", TermsTest::asSaid);
         Doc.says("`LoopGroup(int n)`: n loops (1 .. 8; others: 1).", TermsTest::eachForItself);
         Check.end();
     }
@@ -349,5 +354,69 @@ final class TermsTest {
         Check.task(y, 0, 1, 0);
         Check.same("its chooser begins with 0", y.execute(0, -2), 0);
         Check.same("its clock at 0", y.advance(1), 1);
+    }
+
+    private static void askedOfALoop() {
+        Group x = new Group(2);
+        x.promise(0);
+        int task = Check.task(x, 8, 0, 0);
+        for (int k = 0; k < 4; k++) {
+            x.execute(task, 1);
+        }
+        x.timer(task, 7, 1);
+        x.timer(task, 7, 1);
+        x.step(1);
+        x.execute(task, 1);
+        int[] due = {2, 4, 2, 1, 3};
+        for (int what = 0; what < due.length; what++) {
+            Check.same("what " + what, x.loop(1, what), due[what]);
+            Check.same("what " + what + " of the other loop", x.loop(0, what), what == 0 ? 1 : 0);
+        }
+    }
+
+    private static void askedOfAPromise() {
+        Group x = new Group(1);
+        x.promise(0);
+        x.promise(0);
+        int task = x.task();
+        x.listen(1, task);
+        x.listen(1, task);
+        x.complete(0, 2, 31);
+        int[][] due = {{2, 31, 0}, {0, 0, 2}};
+        for (int promise = 0; promise < 2; promise++) {
+            for (int what = 0; what < 3; what++) {
+                Check.same("promise " + promise + ", what " + what, x.look(promise, what), due[promise][what]);
+            }
+        }
+    }
+
+    private static void askedOfTheTrace() {
+        Group x = new Group(3);
+        int task = Check.task(x, 0, 55, 0);
+        x.execute(task, 2);
+        x.step(2);
+        int[][] due = {{2, 7, 2}, {2, 1, 0}, {2, 0, 55}};
+        for (int k = 0; k < 3; k++) {
+            for (int what = 0; what < 3; what++) {
+                Check.same("entry " + k + ", what " + what, x.trace(k, what), due[k][what]);
+            }
+        }
+    }
+
+    private static void asSaid() {
+        Group x = new Group(2);
+        x.task();
+        Check.cannotBe("execute: no such task", x, () -> x.execute(1, 0));
+        Check.cannotBe("execute: no such loop", x, () -> x.execute(0, 2));
+        Check.cannotBe("execute: -1 is of orders alone", x, () -> x.execute(0, -1));
+        Check.cannotBe("timer: no such task", x, () -> x.timer(1, 0, 0));
+        Check.cannotBe("timer: no such loop", x, () -> x.timer(0, 0, 2));
+        Check.cannotBe("timer: a time below 0", x, () -> x.timer(0, -1, 0));
+        for (int k = 0; k < 24; k++) {
+            x.execute(0, 1);
+            x.timer(0, 5, 1);
+        }
+        Check.rejected("execute: the queue is full", x, 0, () -> x.execute(0, 1));
+        Check.rejected("timer: 24 wait", x, 0, () -> x.timer(0, 5, 1));
     }
 }
